@@ -13,10 +13,13 @@ public final class AgainstModelTest {
     private String call;
     /** Runs of few families and towns are those in which all() and good() answer. */
     private final int mostTowns, mostFamilies;
+    /** In every third run sums pay some levels, so that levels between 0 and 5 are wanted, too. */
+    private final boolean sums;
 
     private AgainstModelTest(int run) {
         this.run = run;
         random = new Random(run);
+        sums = run % 3 == 0;
         mostTowns = 1 + random.nextInt(4);
         mostFamilies = random.nextInt(9);
     }
@@ -95,6 +98,10 @@ public final class AgainstModelTest {
                 b = upTo(6);
                 c = b < 3 ? upToOr(5, 6) : b == 4 ? upToOr(40, 100) : upToOr(random.nextInt(3) == 0 ? 999 : 30, 1000);
                 if (b == 3 && random.nextInt(2) == 0) c = 0;
+                if (sums && random.nextInt(3) > 0) {
+                    b = 5;
+                    c = random.nextInt(60);
+                }
                 return alike(s("put", a, b, c), program.put(a, b, c), model.put(a, b, c));
             case 4:
                 a = family();
@@ -161,7 +168,7 @@ public final class AgainstModelTest {
     private String randomClause() {
         int sort = random.nextInt(4), good = random.nextInt(3);
         switch (random.nextInt(10)) {
-            case 0: case 1: case 2: return "like " + sort + " " + good + " " + number(40);
+            case 0: case 1: case 2: return "like " + sort + " " + good + " " + number(sums ? 10 : 40);
             case 3: case 4: return "near " + sort + " " + random.nextInt(4) + " " + number(30);
             case 5: return "cost " + good + " " + number(40);
             case 6: return "mile " + number(12);

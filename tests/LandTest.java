@@ -236,9 +236,35 @@ public final class LandTest {
         x.put(0, 1, 1);
         due("P10 all else as it is", x.choice(0, 0), 1);
         due("P10 asking changes nothing", x.has(0, 3) * 10 + x.has(0, 4), 1);
+        unlikeWants();
+        x.put(0, 2, 1);
+        Check.land(x, "like 2 2 11");
+        due("P10 good 2", x.choice(0, 2), 5);
         due("P10 good 3", x.choice(0, 3), -1);
         due("P10 good -1", x.choice(0, -1), -1);
         due("P10 town 2", x.choice(2, 0), -1);
+    }
+
+    /** Levels 0, 2 and 5 are wanted, and then more of 5 or of 0. */
+    private static void unlikeWants() {
+        CrossroadsCarts x = Check.families(Check.towns(8), Check.f(0, 40, 0), Check.f(1, 20, 0), Check.f(2, 9, 0));
+        String likes = "like 1 0 1;like 2 0 9";
+        x.put(0, 5, 20);
+        Check.land(x, likes);
+        due("P10 m: one each of 0 2 5", x.choice(0, 0), 0);
+        Check.land(x, likes + ";pick d");
+        due("P10 d: the middle one of 0 2 5", x.choice(0, 0), 2);
+        x.family(2, 9, 0);
+        due("P10 d: the lesser one of 0 2 5 5", x.choice(0, 0), 2);
+        x.family(2, 9, 0);
+        due("P10 d: the middle one of 0 2 5 5 5", x.choice(0, 0), 5);
+        x.family(0, 9, 0);
+        x.family(0, 9, 0);
+        due("P10 d: the middle one of 0 0 0 2 5 5 5", x.choice(0, 0), 2);
+        Check.land(x, likes);
+        due("P10 m: the least of 0 0 0 2 5 5 5", x.choice(0, 0), 0);
+        Check.land(x, likes + ";pick o");
+        due("P10 o: likewise", x.choice(0, 0), 0);
     }
 
     private static void choosing() {

@@ -123,6 +123,8 @@ public final class RestsTest {
         due("P13 nobody went by that", x.of(0, 2) * 10 + x.of(1, 2), 1);
         x.put(2, 4, 11);
         due(x, "a gate hinders one of them", 5, -5);
+        x.put(2, 4, 10);
+        due(x, "a gate of its income does not", 5, 2);
         x.put(2, 4, 0);
         x.put(2, 3, 5);
         due(x, "it is no better for them", 5, -5);
@@ -203,9 +205,30 @@ public final class RestsTest {
         CrossroadsCarts late = Check.families(Check.towns(2, 2, 1), Check.f(0, 10, 2), Check.f(1, 20, 1));
         Check.land(late, "near 0 1 5;shun s=1&f>1 9;shun t=2 50");
         due("P16 a ring behind its first step", late.end(false), 104);
-        CrossroadsCarts chase = Check.families(Check.towns(8, 3, 5, 7), Check.f(1, 36, 2), Check.f(1, 32, 2), Check.f(1, 2, 2), Check.f(2, 15, 0), Check.f(0, 20, 0));
-        Check.land(chase, "shun s=0&f>1 36;near 1 0 27");
-        due("P16 20 steps", chase.end(false), 200);
+        chase();
+    }
+
+    private static CrossroadsCarts chasing() {
+        CrossroadsCarts x = Check.families(Check.towns(8, 3, 5, 7), Check.f(1, 36, 2), Check.f(1, 32, 2), Check.f(1, 2, 2),
+            Check.f(2, 15, 0), Check.f(0, 20, 0));
+        Check.land(x, "shun s=0&f>1 36;near 1 0 27");
+        return x;
+    }
+
+    private static void chase() {
+        CrossroadsCarts x = chasing();
+        CrossroadsCarts byStep = chasing();
+        due("P16 20 steps", x.end(false), 200);
+        for (int i = 0; i < 20; i++) CHECK.due("P15 step " + i, byStep.step(false) >= 0, true);
+        for (int f = 0; f < 5; f++) due("P16 behind 20 steps: family " + f, x.of(f, 2), byStep.of(f, 2));
+        due("P15 a 21st could be done", byStep.step(false), 4);
+        CHECK.due("P16 and would move one more", x.of(4, 2) == byStep.of(4, 2), false);
+        for (int i = 0; i < 512; i++) {
+            int to = x.end(false);
+            if (to == 200) continue;
+            CHECK.due("P16 a ring at last: " + to, to > 100 && to <= 120, true);
+            return;
+        }
     }
 
     private static void judging() {

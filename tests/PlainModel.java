@@ -637,8 +637,8 @@ final class PlainModel {
     }
 
     int good(int family) {
-        if (tooMany()) return -9;
         if (noFamily(family)) return NONE;
+        if (tooMany()) return -9;
         World best = null;
         long most = 0;
         for (World w : now.ways()) {

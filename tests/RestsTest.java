@@ -302,10 +302,15 @@ public final class RestsTest {
         due("P18 so it is of families", x.all(1, -1, 6), -1);
         due("P18 -9 is ahead of no i-th", x.all(1, 9999, 0), -9);
         due("P19 6 families", x.good(0), -9);
-        due("P19 -9 is told ahead of NONE", x.good(6), -9);
+        due("P19 the last of 6 families", x.good(5), -9);
+        due("P19 NONE is ahead of -9: 6 families", x.good(6), -1);
+        due("P19 so it is below 0", x.good(-1), -1);
         CrossroadsCarts y = Check.families(Check.towns(8, 8, 8, 8), Check.f(0, 10, 0));
         due("P18 4 towns", y.all(1, -1, 0), -9);
         due("P19 4 towns", y.good(0), -9);
+        due("P19 NONE is ahead of -9: 4 towns", y.good(1), -1);
+        due("P19 4 towns and no family", Check.towns(1, 1, 1, 1).good(0), -1);
+        due("P19 neither towns nor families", new CrossroadsCarts().good(0), -1);
     }
 
     private static void bestWays() {

@@ -232,11 +232,11 @@ public final class CrossroadsCarts {
     }
 
     public int good(int family) {
-        if (now.hasTooManyWays()) {
-            return TOO_MANY;
-        }
         if (!isFamily(family)) {
             return NONE;
+        }
+        if (now.hasTooManyWays()) {
+            return TOO_MANY;
         }
         trial.become(now);
         int ways = trial.ways();

@@ -4,6 +4,7 @@ public final class ActsTest {
 
     public static void main(String[] args) {
         acts();
+        wrapping();
         traces();
         noActs();
         taken();
@@ -32,6 +33,39 @@ public final class ActsTest {
         due("P27 one family more", x.act(3, 0, 10), -13);
         x.town(1);
         due("P27 one town more", x.act(5, 1, 10), 8);
+    }
+
+    /** x wraps, as all that is done with it does: each act worked out by hand, with k families and m towns. */
+    private static int byHand(int kind, int act, int x, int k, int m) {
+        int seen = (3 * (x - k) + k - m ^ 5) + (6 + k);
+        int[] all = {
+            x + k, x + k - m, 2 * (x + k - m),
+            x + k, x + k - m ^ 5, 2 * (x + k - m ^ 5),
+            3 * x + k, 3 * x + k - m ^ 5, 2 * (3 * x + k - m ^ 5) + (3 + k - m ^ 5),
+            -(x + k), -(x + k) - m ^ 5, 2 * (-(x + k) - m ^ 5),
+            3 * x + k, (3 * x + k - m ^ 5) + (6 + k), 2 * seen + (3 + k - m ^ 5) + (6 + k),
+            x + k, x + k ^ 5, x + k - 2 * (x + k ^ 5)};
+        return all[3 * kind + act];
+    }
+
+    private static void wrapping() {
+        int most = Integer.MAX_VALUE, least = Integer.MIN_VALUE;
+        int[] xs = {0, 1, -1, 5, most, most - 1, most - 7, most - 8, least, least + 1, least + 4, 1 << 30, (1 << 30) - 1, -(1 << 30), most / 3, most / 3 + 1,
+            least / 3, least / 3 - 1, 715827883, -715827883, 1431655765, 1431655766};
+        for (int k = 0; k <= 8; k++) {
+            for (int m = k == 0 ? 0 : 1; m <= 4; m++) {
+                CrossroadsCarts x = new CrossroadsCarts();
+                for (int t = 0; t < m; t++) x.town(8);
+                for (int f = 0; f < k; f++) x.family(0, 10, 0);
+                for (int i = 0; i < 18; i++) {
+                    for (int n : xs) due("P27 act(" + i / 3 + ", " + i % 3 + ", " + n + ") of " + k + ", " + m, x.act(i / 3, i % 3, n), byHand(i / 3, i % 3, n, k, m));
+                }
+            }
+        }
+        for (int i = 0; i < 18; i++) {
+            due("P27 the acting one's own kind and act of the most x", twoInThree().act(i / 3, i % 3, most), byHand(i / 3, i % 3, most, 2, 3));
+            due("P27 the least x", twoInThree().act(i / 3, i % 3, least), byHand(i / 3, i % 3, least, 2, 3));
+        }
     }
 
     private static void trace(int kind, int act, int... bodies) {

@@ -15,6 +15,8 @@ public final class AgainstModelTest {
     private final int mostTowns, mostFamilies;
     /** In every third run sums pay some levels, so that levels between 0 and 5 are wanted, too. */
     private final boolean sums;
+    /** How often the program has been called. */
+    private int calls;
 
     private AgainstModelTest(int run) {
         this.run = run;
@@ -34,7 +36,7 @@ public final class AgainstModelTest {
     }
 
     private boolean holds() {
-        for (int i = 0; i < CALLS; i++) {
+        for (int i = 0; calls < CALLS; i++) {
             int which = i < 25 ? random.nextInt(4) : random.nextInt(34);
             if (which == 3 && i < 25) which = 6;
             if (!answersAlike(which)) {
@@ -55,16 +57,18 @@ public final class AgainstModelTest {
     }
 
     private int town() {
-        return random.nextInt(30) == 0 ? upTo(5) : random.nextInt(Math.max(1, program.count(0)));
+        return random.nextInt(30) == 0 ? upTo(5) : random.nextInt(Math.max(1, model.now.towns.size()));
     }
 
     private int family() {
-        return random.nextInt(30) == 0 ? upTo(9) : random.nextInt(Math.max(1, program.count(1)));
+        return random.nextInt(30) == 0 ? upTo(9) : random.nextInt(Math.max(1, model.now.families.size()));
     }
 
+    /** What an object answers behind its 512th call is free. */
     private boolean alike(String call, long got, long due) {
+        calls++;
         told.append(' ').append(call);
-        if (got == due) return true;
+        if (got == due || calls > CALLS) return true;
         told.append(" answered ").append(got).append(", the model ").append(due);
         return false;
     }
@@ -84,11 +88,11 @@ public final class AgainstModelTest {
         int a, b, c;
         switch (which) {
             case 0:
-                if (program.count(0) >= mostTowns && random.nextInt(30) > 0) return text();
+                if (model.now.towns.size() >= mostTowns && random.nextInt(30) > 0) return text();
                 a = random.nextInt(10) == 0 ? upTo(9) : 1 + random.nextInt(5);
                 return alike(s("town", a), program.town(a), model.town(a));
             case 1:
-                if (program.count(1) >= mostFamilies && random.nextInt(30) > 0) return text();
+                if (model.now.families.size() >= mostFamilies && random.nextInt(30) > 0) return text();
                 a = upToOr(3, 4);
                 b = random.nextInt(9) == 0 ? upToOr(99, 100) : 10 * (1 + random.nextInt(5));
                 c = town();
@@ -243,7 +247,7 @@ public final class AgainstModelTest {
     private boolean judge() {
         int tape = upTo(6), i = upToOr(3, -1), kind = upTo(6);
         if (random.nextInt(4) > 0 && tape >= 0 && tape < 6 && i >= 0 && i < 4) {
-            int n = i + program.count(1) - random.nextInt(2) + random.nextInt(3);
+            int n = i + model.now.families.size() - random.nextInt(2) + random.nextInt(3);
             if (!alike(s("tape", tape, 1, n), program.tape(tape, 1, n), model.tape(tape, 1, n))) return false;
             for (int k = 0; k < n; k++) {
                 int v = town();

@@ -19,6 +19,14 @@ final class Check {
         due(call, got ? 1 : 0, want ? 1 : 0);
     }
 
+    void same(String call, String got, String want) {
+        asked++;
+        if (!got.equals(want)) {
+            wrong++;
+            System.out.println(test + ": " + call + ":\n  " + got + "\n  is due as\n  " + want);
+        }
+    }
+
     /** Tells how it went; exit code 1 if one was wrong. */
     void end() {
         System.out.println(test + ": " + asked + " asked, " + wrong + " wrong");

@@ -64,13 +64,7 @@ public final class CrossroadsCarts {
         if (!within(sort, 0, SORTS - 1) || !within(income, 1, MOST_INCOME)) {
             return BAD;
         }
-        if (!now.hasRoom(town)) {
-            return STATE;
-        }
-        if (now.families >= FAMILIES) {
-            return FULL;
-        }
-        return now.join(sort, income, town);
+        return now.hasRoom(town) ? now.join(sort, income, town) : STATE;
     }
 
     public int put(int town, int what, int n) {
@@ -554,8 +548,7 @@ public final class CrossroadsCarts {
         int came = 0;
         for (int town = 0; town < now.towns; town++) {
             int sort = now.doubledSort(town);
-            if (sort >= 0 && now.hasRoom(town) && now.families < FAMILIES) {
-                now.join(sort, 10, town);
+            if (sort >= 0 && now.hasRoom(town) && now.join(sort, 10, town) >= 0) {
                 came++;
             }
         }
@@ -865,7 +858,7 @@ public final class CrossroadsCarts {
             System.arraycopy(other.homes, 0, homes, 0, FAMILIES);
         }
 
-        /** One more family, at home where it comes to be: its number. */
+        /** One more family, at home where it comes to be: its number, or FULL. */
         int join(int sort, int income, int town) {
             if (families >= FAMILIES) {
                 return FULL;

@@ -1,3 +1,5 @@
+import java.util.function.Supplier;
+
 /**
  * The sentences of the Terms that name a border: what is just so, and what is one more or one less;
  * and the first and the last town, family, sort and good wherever all of them count.
@@ -9,6 +11,7 @@ public final class BordersTest {
         clausesOfEach();
         testsOfEach();
         forgotten();
+        forgottenPicks();
         costs();
         cuts();
         halves();
@@ -18,6 +21,7 @@ public final class BordersTest {
         oldOnes();
         staying();
         rented();
+        fourTowns();
         seers();
         clubs();
         clubSizes();
@@ -127,6 +131,30 @@ public final class BordersTest {
                 }
                 due("T2 " + told + ": cost", x.has(0, 2), as.has(0, 2));
             }
+        }
+    }
+
+    /** Of 0, 2 and 5, of which 5 comes from elsewhere: m wants 0, d wants 2; of 5, 5 and 0 m wants 5, o wants 0. */
+    private static void forgottenPicks() {
+        for (int between = 0; between < 3; between++) {
+            CrossroadsCarts x = Check.families(Check.towns(8, 8), Check.f(0, 9, 0), Check.f(1, 9, 0), Check.f(2, 9, 1));
+            x.go(2, 0);
+            x.put(0, 5, 20);
+            String likes = "like 1 0 1;like 2 0 9";
+            Check.land(x, likes + ";pick d");
+            due("T2 pick d", x.choice(0, 0), 2);
+            for (int i = 0; i < between; i++) Check.land(x, "mile " + i);
+            Check.land(x, likes);
+            due("T2 pick d is forgotten", x.choice(0, 0), 0);
+            x.family(2, 9, 1);
+            x.go(3, 0);
+            x.go(1, 1);
+            due("T2 pick m", x.choice(0, 0), 5);
+            Check.land(x, likes + ";pick o");
+            due("T2 pick o", x.choice(0, 0), 0);
+            for (int i = 0; i < between; i++) Check.land(x, "mile " + i);
+            Check.land(x, likes);
+            due("T2 pick o is forgotten", x.choice(0, 0), 5);
         }
     }
 
@@ -325,6 +353,17 @@ public final class BordersTest {
         }
     }
 
+    /** Four towns at rest of every KIND, full and not. */
+    private static void fourTowns() {
+        for (int houses = 1; houses <= 2; houses++) {
+            CrossroadsCarts x = Check.towns(houses, houses, houses, houses);
+            for (int f = 0; f < 4 * houses; f++) x.family(f % 4, 9, f % 4);
+            for (int kind = 1; kind <= 5; kind++) due("T3 four full towns of " + houses + ", kind " + kind, x.broken(kind), -5);
+        }
+        CrossroadsCarts empty = Check.towns(1, 1, 1, 1);
+        for (int kind = 1; kind <= 5; kind++) due("T3 four empty towns, kind " + kind, empty.broken(kind), -5);
+    }
+
     /** SEER asks what would be chosen and leaves all as it was. */
     private static void seers() {
         for (int swap = 0; swap < 2; swap++) {
@@ -483,6 +522,16 @@ public final class BordersTest {
                 }
             }
         }
+        for (int level = 1; level <= 5; level++) {
+            for (int good = 1; good < 3; good++) {
+                CrossroadsCarts x = Check.families(Check.towns(1), Check.f(0, 9, 0));
+                Check.land(x, "like 0 0 1");
+                x.put(0, 5, 10);
+                x.put(0, good, level);
+                due("T4 LEVELS 0 and " + level + " are not as 1 and 0", x.end(true), 2);
+                due("T4 so it ends", x.has(0, 3) * 100 + x.has(0, 4) * 10 + x.has(0, 5), 100);
+            }
+        }
         for (int f = 0; f < 8; f++) {
             for (int to = 1; to < 4; to++) {
                 CrossroadsCarts x = Check.towns(8, 8, 8, 8);
@@ -536,34 +585,41 @@ public final class BordersTest {
     }
 
     /** END is till there is no STEP, or a ring, or 20 are done; behind it all is as behind so many STEPS. */
-    private static void end(String told, CrossroadsCarts x, CrossroadsCarts bySteps, boolean votes, int answer, int steps) {
+    private static void end(String told, Supplier<CrossroadsCarts> scene, boolean votes, int answer, int steps) {
+        CrossroadsCarts x = scene.get();
         due("T4 " + told, x.end(votes), answer);
-        for (int i = 0; i < steps; i++) {
-            String before = look(bySteps);
-            int went = bySteps.step(votes);
-            due("T4 " + told + ": step " + i, went >= 0 || went == -5);
-            due("T4 " + told + ": step " + i + " changed something", !look(bySteps).equals(before));
+        String before = look(scene.get());
+        for (int done = 1; done <= steps; done++) {
+            CrossroadsCarts y = scene.get();
+            for (int i = 1; i < done; i++) y.step(votes);
+            int went = y.step(votes);
+            due("T4 " + told + ": step " + done, went >= 0 || went == -5);
+            String behind = look(y);
+            due("T4 " + told + ": step " + done + " changed something", !behind.equals(before));
+            before = behind;
         }
-        CHECK.same("T4 " + told + ": all as behind so many steps", look(x), look(bySteps));
+        CHECK.same("T4 " + told + ": all as behind so many steps", look(x), before);
     }
 
     private static void rings() {
-        end("19 steps", nineteen(), nineteen(), false, 19, 19);
-        due("T4 there is no 20th", nineteen().end(false) == 19);
+        end("19 steps", BordersTest::nineteen, false, 19, 19);
+        end("20 steps", BordersTest::twenty, true, 200, 20);
         CrossroadsCarts last = twenty();
-        end("20 steps", last, twenty(), true, 200, 20);
+        last.end(true);
         due("T4 there would be no 21st", last.step(true), -6);
+        end("a ring of 20", BordersTest::ringOfTwenty, true, 120, 20);
         CrossroadsCarts ring = ringOfTwenty();
-        String ahead = look(ring);
-        end("a ring of 20", ring, ringOfTwenty(), true, 120, 20);
-        CHECK.same("T4 as ahead of all", look(ring), ahead);
+        ring.end(true);
+        CHECK.same("T4 as ahead of all", look(ring), look(ringOfTwenty()));
+        end("a ring of 4 with the 20th step", BordersTest::ringOfFour, false, 104, 20);
         CrossroadsCarts four = ringOfFour();
-        end("a ring of 4 with the 20th step", four, ringOfFour(), false, 104, 20);
-        ahead = look(four);
+        four.end(false);
+        String ahead = look(four);
         for (int i = 0; i < 4; i++) four.step(false);
         CHECK.same("T4 4 more steps, and it is like that again", look(four), ahead);
+        end("a ring with the 21st step", BordersTest::ringTooLate, true, 200, 20);
         CrossroadsCarts late = ringTooLate();
-        end("a ring with the 21st step", late, ringTooLate(), true, 200, 20);
+        late.end(true);
         late.step(true);
         CrossroadsCarts first = ringTooLate();
         first.step(true);

@@ -21,6 +21,7 @@ public final class RefusalsTest {
         land();
         kinds();
         go();
+        noStep();
         judge();
         judgedPlaces();
         all();
@@ -193,6 +194,20 @@ public final class RefusalsTest {
         full("P14 STATE: full, and a gate", x -> x.go(0, 2), STATE);
         some("P14 NONE ahead of STATE: a full town", x -> x.go(4, 0), NONE);
         some("P14 NONE ahead of STATE: a gate", x -> x.go(-1, 2), NONE);
+    }
+
+    /** -6: none is done; 0 steps are none either. */
+    private static void noStep() {
+        Supplier<CrossroadsCarts> still = () -> {
+            CrossroadsCarts x = Scenes.full();
+            x.end(true);
+            return x;
+        };
+        for (boolean votes : new boolean[] {false, true}) {
+            refused("P15 no step, votes " + votes, still, x -> x.step(votes), -6);
+            refused("P16 no steps, votes " + votes, still, x -> x.end(votes), 0);
+            nothing("P15 no step, votes " + votes, x -> x.step(votes), -6);
+        }
     }
 
     private static void judge() {

@@ -10,8 +10,9 @@ import java.util.regex.Pattern;
 /** What of the rules of LANGUAGE.md can be seen in the program's text; run in the project's folder. */
 public final class FormTest {
     private static final Check CHECK = new Check("FormTest");
-    private static final Set<String> LIBRARY = Set.of("Math.max", "Math.min", "Math.abs", "Integer.bitCount", "Integer.MIN_VALUE",
-        "Long.MIN_VALUE", "Long.MAX_VALUE", "System.arraycopy", "Arrays.fill");
+    /** Long.MIN_VALUE stands in the document's face alone: rule 4 names functions of Long, no constants. */
+    private static final Set<String> LIBRARY = Set.of("Math.max", "Math.min", "Math.abs", "Integer.bitCount",
+        "Long.MIN_VALUE", "System.arraycopy", "Arrays.fill");
 
     public static void main(String[] args) throws Exception {
         String raw = Files.readString(Path.of("src/main/java/CrossroadsCarts.java"));
@@ -76,6 +77,7 @@ public final class FormTest {
     private static void library(String code) {
         Matcher used = Pattern.compile("\\b(Math|Integer|Long|System|Arrays|String|Character|Short|Byte|Boolean)\\.(\\w+)").matcher(code);
         while (used.find()) CHECK.due("rule 4: " + used.group(), LIBRARY.contains(used.group()), true);
+        CHECK.due("rule 4: Long.MIN_VALUE but for NO", code.split("\\bLong\\.", -1).length - 1, 1);
         Matcher imports = Pattern.compile("(?m)^import .*").matcher(code);
         while (imports.find()) CHECK.due("rule 4: " + imports.group(), imports.group().equals("import java.util.Arrays;"), true);
         Matcher signs = Pattern.compile("[^\\x00-\\x7f]").matcher(code);

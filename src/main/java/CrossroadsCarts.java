@@ -974,11 +974,14 @@ public final class CrossroadsCarts {
             return together;
         }
 
-        /** The least WORTH that a family has; the most there is, where nobody has any. */
-        long leastWorth() {
-            long least = Long.MAX_VALUE;
+        /** The least WORTH that a family has; 0 where there is none. */
+        int leastWorth() {
+            int least = 0;
             for (int family = 0; family < families; family++) {
-                least = Math.min(least, worthOf(family, at[family]));
+                int worth = worthOf(family, at[family]);
+                if (family == 0 || worth < least) {
+                    least = worth;
+                }
             }
             return least;
         }
@@ -1031,11 +1034,11 @@ public final class CrossroadsCarts {
             int place = town * GOODS + good;
             int former = levels[place];
             int wanted = 0;
-            int most = Integer.MIN_VALUE;
+            int most = 0;
             for (int level = 0; level < LEVELS; level++) {
                 levels[place] = level;
                 int worth = like * level - cutPart(costOf(town), share, shares);
-                if (worth > most) {
+                if (level == 0 || worth > most) {
                     most = worth;
                     wanted = level;
                 }
